@@ -6,21 +6,22 @@ public final class SmallRowsTest {
     private static final Checks CHECKS = new Checks();
     private static final int[] STATES = {2, 3, 5, 7};
     private static final int[] MOST_LAMPS = {8, 5, 4, 3};
+    private static final int MOST_CALLS_OF_A_STEP = 120;
 
     private final String name;
     private final Dice dice;
     private final Model model;
-    private final LightRows x;
+    private final Row x;
 
     private SmallRowsTest(int run, int states, int lamps) {
         name = "run " + run + " (" + lamps + " lamps, " + states + " states): ";
         dice = new Dice(run);
         model = new Model(lamps, states);
-        x = new LightRows(lamps, states);
+        x = new Row(lamps, states);
     }
 
     public static void main(String[] args) {
-        for (int run = 0; run < 160; run++) {
+        for (int run = 0; run < 640; run++) {
             int kind = run % 4;
             int lamps = 1 + run / 4 % MOST_LAMPS[kind];
             new SmallRowsTest(run, STATES[kind], lamps).go();
@@ -30,7 +31,7 @@ public final class SmallRowsTest {
 
     private void go() {
         compare();
-        for (int step = 0; step < 30; step++) {
+        for (int step = 0; x.callsLeft() >= MOST_CALLS_OF_A_STEP; step++) {
             change();
             if (step % 3 == 2) {
                 compare();
